@@ -57,7 +57,9 @@ public final class DayLaces {
         lines = new Book(told, laws);
         kneeling = new Kneeling(told, laws);
         history = new History();
-        now = new State();
+        State first = new State();
+        first.begin();
+        now = first;
         trial = new State();
         walks = new int[(1 << MOST_PERSONS) * MOST_PERSONS];
     }

@@ -71,6 +71,10 @@ public final class DaysTest {
         Check.due("nobody is slow", -1, () -> x.slowest(0));
         Check.due("nobody is slow by", -1, () -> x.slowest(1));
         Check.due("days", 1, x::days);
+        Check.work(x, "day;");
+        Check.due("all by 1: the first", 0, () -> x.slowest(0));
+        Check.due("by 1", 1, () -> x.slowest(1));
+        x.undo();
         Check.work(x, "double 3 3;day;day;tie 0 0;day;undo 3;day;");
         // today 4; days 2 0 0 3
         Check.due("slowest, the first", 1, () -> x.slowest(0));

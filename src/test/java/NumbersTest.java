@@ -150,6 +150,7 @@ public final class NumbersTest {
         Check.due("one seed", x.week(4, 9, 5, 0), () -> x.span(4, 1, 9, 5, 0, 0));
         DayLaces one = Check.on("person 9 0 0 0;");
         Check.due("always today", 20, () -> one.span(0, 20, 4, 16, 2, 0));
+        Check.due("most is none", 0, () -> one.span(0, 20, 4, 16, 1, 0));
         Check.due("never today", 0, () -> one.span(0, 20, 4, 0, 2, 0));
         int[][] wrong = {{0, 1, 0, 0, 0}, {21, 1, 0, 0, 0}, {1, 0, 0, 0, 0}, {1, 97, 0, 0, 0}, {1, 1, -1, 0, 0},
             {1, 1, 17, 0, 0}, {1, 1, 0, -1, 0}, {1, 1, 0, 3, 0}, {1, 1, 0, 0, 3}, {1, 1, 0, 1, -1}, {1, 1, 0, 2, 3}};

@@ -134,9 +134,14 @@ public final class StepsTest {
         Check.work(x, "");
         Check.due("works", 3, () -> x.count(2));
         Check.due("undo of no steps", 2, x::undo);
-        Check.due("refused is 0 behind undo", 0, () -> x.told(10));
         Check.due("today", 1, () -> x.told(1));
+        Check.due("done again", 1, () -> Check.work(x, "day;mend 3;cut 1;"));
+        Check.due("refused two", 2, () -> x.told(10));
+        Check.due("undone again", 2, x::undo);
+        Check.due("refused is 0 behind undo", 0, () -> x.told(10));
+        Check.due("cut was in today then", 1, () -> x.person(1, 4));
         Check.due("undo", 1, x::undo);
+        Check.due("its day is back", 0, () -> x.person(1, 4));
         Check.due("today back", 0, () -> x.told(1));
         Check.due("tied back", 1, () -> x.told(2));
         Check.due("cut back", 2, () -> x.told(4));
@@ -184,6 +189,10 @@ public final class StepsTest {
             Check.wrong("would below " + i, () -> y.would(v[0], v[1], v[2], v[3], v[4], v[5], v[6], v[7]));
         }
         Check.due("would at the bounds", 99, () -> y.would(9, 9, 999, 1, 1, 1, 999, 900));
+        Check.law(y, "friend*10+self*20+double*30");
+        Check.due("would of a friend", 10, () -> y.would(0, 0, 0, 0, 1, 0, 0, 0));
+        Check.due("would of oneself", 20, () -> y.would(0, 0, 0, 0, 0, 1, 0, 0));
+        Check.due("would doubly", 30, () -> y.would(0, 0, 0, 1, 0, 0, 0, 0));
         Check.due("would at 0", 0, () -> y.would(0, 0, 0, 0, 0, 0, 0, 0));
         Check.due("10 holds, 9 does not", 1, () -> {
             DayLaces z = Check.on("person 9 0 0 0;person 8 0 0 0;");
@@ -210,6 +219,12 @@ public final class StepsTest {
         Check.due("best whether it holds or not", 2, () -> {
             DayLaces y = Check.on(FOUR);
             return y.best(2);
+        });
+        Check.due("best singly, not doubly", 0, () -> {
+            DayLaces y = Check.on("person 9 0 0 0;person 0 0 0 0;");
+            Check.work(y, "tie 0 0;");
+            Check.law(y, "30+fingers-double*fingers*2");
+            return y.best(1);
         });
         Check.due("of alike ones the first", 0, () -> {
             Check.law(x, "5");

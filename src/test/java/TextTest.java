@@ -98,7 +98,11 @@ public final class TextTest {
         Check.due("all stays: law", 99, () -> x.hold(1, 1, 0));
         Check.due("all stays: images", 1, () -> x.count(0));
         Check.due("all stays: works", 1, () -> x.count(2));
+        Check.due("a street with friends", 2, () -> Check.street(x, TWO + "friend 0 1;"));
+        Check.work(x, "tie 1 1;cut 0;day;");
         Check.due("street again", 2, () -> Check.street(x, TWO));
+        Check.due("no friends any more", 0, () -> x.person(0, 10) + x.person(1, 10));
+        Check.due("nobody slipped", 0, () -> x.person(1, 8));
         int[] zero = {1, 2, 3, 4, 5, 6, 7, 9, 10, 11};
         for (int what : zero) {
             Check.due("behind a new street " + what, 0, () -> x.told(what));
@@ -134,6 +138,10 @@ public final class TextTest {
         fault(x, "street", "person  x 0 0 0;", -9, 8);
         fault(x, "street", "persons 0 0 0 0;", -9, 0);
         fault(x, "street", "  Person 0 0 0 0;", -9, 2);
+        fault(x, "street", "personz 0 0 0 0;", -9, 0);
+        fault(x, "street", "zperson 0 0 0 0;", -9, 0);
+        fault(x, "street", "person/0 0 0 0;", -9, 6);
+        fault(x, "street", "person 0 0 0 0:", -9, 14);
         fault(x, "street", ";", -9, 0);
         fault(x, "street", "5;", -9, 0);
         fault(x, "street", "string 100;", -8, 7);
@@ -224,6 +232,9 @@ public final class TextTest {
         fault(x, "work", "again1[".repeat(6) + "agai", -9, 42);
         Check.due("none is done", 0, () -> x.told(1));
         Check.due("none is kept", 0, () -> x.count(2));
+        Check.due("150 bytes of days", 37, () -> Check.work(x, "day;".repeat(37) + "  "));
+        Check.due("a day too long", -9, () -> Check.work(x, "day;".repeat(37) + "da"));
+        Check.due("at its word", 148, x::fault);
         Check.due("six open", 1, () -> Check.work(x, "again1[".repeat(6) + "day;" + "];".repeat(6)));
         Check.due("no fault any more", -1, x::fault);
     }

@@ -68,6 +68,9 @@ public final class WaysTest {
     }
 
     private static void kneeling() {
+        DayLaces first = Check.on(FOUR);
+        Check.due("kneels ahead of kneel", 1, () -> first.kneels(1));
+        Check.due("3 ahead of kneel", 3, () -> first.kneels(3));
         DayLaces x = Check.on(FOUR);
         Check.due("given", 3, () -> x.kneel(0));
         Check.due("days", 0, () -> x.kneel(1));
