@@ -97,6 +97,14 @@ final class Check {
         return x.book(text.length());
     }
 
+    /** Reads a text of a kind: its answer, the place of its FAULT (-1 without), and that the TAPE is empty then. */
+    static void reads(DayLaces x, String kind, String text, int answer, int place) {
+        due(kind + " '" + text + "'", answer, () -> kind.equals("street") ? street(x, text)
+            : kind.equals("law") ? law(x, text) : kind.equals("work") ? work(x, text) : book(x, text));
+        due("fault of " + kind + " '" + text + "'", place, x::fault);
+        due("tape behind " + kind + " '" + text + "'", 0, () -> x.count(1));
+    }
+
     /** A new object with a street that must be right. */
     static DayLaces on(String street) {
         DayLaces x = new DayLaces();

@@ -1,4 +1,3 @@
-import java.lang.reflect.InvocationTargetException;
 import java.lang.reflect.Method;
 import java.util.ArrayList;
 import java.util.Arrays;
@@ -87,7 +86,7 @@ public final class ModelTest {
     }
 
     private void ask(String name) {
-        Method method = methodOf(DayLaces.class, name);
+        Method method = Calls.methodOf(DayLaces.class, name);
         Object[] args = new Object[method.getParameterCount()];
         for (int i = 0; i < args.length; i++) {
             args[i] = argument(name, i);
@@ -132,8 +131,8 @@ public final class ModelTest {
         if (differs) {
             return;
         }
-        String got = answer(laces, name, args);
-        String want = answer(model, name, args);
+        String got = Calls.answer(laces, name, args);
+        String want = Calls.answer(model, name, args);
         calls.add(name + Arrays.toString(args) + " = " + want);
         Check.due(name + Arrays.toString(args), got, want);
         if (!got.equals(want)) {
@@ -141,27 +140,5 @@ public final class ModelTest {
             calls.stream().filter(c -> !c.startsWith("feed")).skip(Math.max(0, calls.size() - 200))
                 .forEach(System.out::println);
         }
-    }
-
-    private static String answer(Object target, String name, Object[] args) {
-        try {
-            Object answer = methodOf(target.getClass(), name).invoke(target, args);
-            return answer instanceof Boolean b ? b ? "1" : "0" : answer.toString();
-        } catch (InvocationTargetException e) {
-            return "throws." + e.getCause().getClass().getSimpleName();
-        } catch (IllegalAccessException e) {
-            return e.toString();
-        }
-    }
-
-    private static Method methodOf(Class<?> type, String name) {
-        boolean isModel = type == Model.class;
-        for (Method m : isModel ? type.getDeclaredMethods() : type.getMethods()) {
-            boolean ints = Arrays.stream(m.getParameterTypes()).allMatch(t -> t == int.class);
-            if (m.getName().equals(name) && ints) {
-                return m;
-            }
-        }
-        throw new IllegalStateException(name);
     }
 }

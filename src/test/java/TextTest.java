@@ -115,44 +115,36 @@ public final class TextTest {
         Check.due("no lines", 4, () -> x.fits(0));
     }
 
-    private static void fault(DayLaces x, String kind, String text, int answer, int place) {
-        Check.due(kind + " " + text, answer, () -> kind.equals("street") ? Check.street(x, text)
-            : kind.equals("law") ? Check.law(x, text) : kind.equals("work") ? Check.work(x, text)
-            : Check.book(x, text));
-        Check.due("fault of " + kind + " " + text, place, x::fault);
-        Check.due("tape behind " + kind + " " + text, 0, () -> x.count(1));
-    }
-
     private static void streetFaults() {
         DayLaces x = new DayLaces();
-        fault(x, "street", "person 10 0 0 0;", -8, 7);
-        fault(x, "street", "person 0 10 0 0;", -8, 9);
-        fault(x, "street", "person 0 0 21 0;", -8, 11);
-        fault(x, "street", "person 0 0 0 21;", -8, 13);
-        fault(x, "street", "person 0 0 0 99999999999999999999;", -8, 13);
-        fault(x, "street", "person 0 0 0 4294967296;", -8, 13);
-        fault(x, "street", "person 0 0 0;", -9, 12);
-        fault(x, "street", "person 0 0 0 0 0;", -9, 15);
-        fault(x, "street", "person 0 0 0 0", -9, 14);
-        fault(x, "street", "person 0 0 0 0  ", -9, 16);
-        fault(x, "street", "person  x 0 0 0;", -9, 8);
-        fault(x, "street", "persons 0 0 0 0;", -9, 0);
-        fault(x, "street", "  Person 0 0 0 0;", -9, 2);
-        fault(x, "street", "personz 0 0 0 0;", -9, 0);
-        fault(x, "street", "zperson 0 0 0 0;", -9, 0);
-        fault(x, "street", "person/0 0 0 0;", -9, 6);
-        fault(x, "street", "person 0 0 0 0:", -9, 14);
-        fault(x, "street", ";", -9, 0);
-        fault(x, "street", "5;", -9, 0);
-        fault(x, "street", "string 100;", -8, 7);
-        fault(x, "street", "string -1;", -9, 7);
-        fault(x, "street", "friend 0 1;", -8, 7);
-        fault(x, "street", TWO + "friend 0 2;", -8, 41);
-        fault(x, "street", TWO + "friend 2 0;", -8, 39);
-        fault(x, "street", TWO + "friend 1 01;", -8, 41);
-        fault(x, "street", TWO + "friend 1;", -9, 40);
-        fault(x, "street", "person 0 0 0 0;friend 0 1;person 0 0 0 0;", -8, 24);
-        fault(x, "street", "person 0 0 0 0;".repeat(8) + " person 0 0 0 0;", -7, 121);
+        Check.reads(x, "street", "person 10 0 0 0;", -8, 7);
+        Check.reads(x, "street", "person 0 10 0 0;", -8, 9);
+        Check.reads(x, "street", "person 0 0 21 0;", -8, 11);
+        Check.reads(x, "street", "person 0 0 0 21;", -8, 13);
+        Check.reads(x, "street", "person 0 0 0 99999999999999999999;", -8, 13);
+        Check.reads(x, "street", "person 0 0 0 4294967296;", -8, 13);
+        Check.reads(x, "street", "person 0 0 0;", -9, 12);
+        Check.reads(x, "street", "person 0 0 0 0 0;", -9, 15);
+        Check.reads(x, "street", "person 0 0 0 0", -9, 14);
+        Check.reads(x, "street", "person 0 0 0 0  ", -9, 16);
+        Check.reads(x, "street", "person  x 0 0 0;", -9, 8);
+        Check.reads(x, "street", "persons 0 0 0 0;", -9, 0);
+        Check.reads(x, "street", "  Person 0 0 0 0;", -9, 2);
+        Check.reads(x, "street", "personz 0 0 0 0;", -9, 0);
+        Check.reads(x, "street", "zperson 0 0 0 0;", -9, 0);
+        Check.reads(x, "street", "person/0 0 0 0;", -9, 6);
+        Check.reads(x, "street", "person 0 0 0 0:", -9, 14);
+        Check.reads(x, "street", ";", -9, 0);
+        Check.reads(x, "street", "5;", -9, 0);
+        Check.reads(x, "street", "string 100;", -8, 7);
+        Check.reads(x, "street", "string -1;", -9, 7);
+        Check.reads(x, "street", "friend 0 1;", -8, 7);
+        Check.reads(x, "street", TWO + "friend 0 2;", -8, 41);
+        Check.reads(x, "street", TWO + "friend 2 0;", -8, 39);
+        Check.reads(x, "street", TWO + "friend 1 01;", -8, 41);
+        Check.reads(x, "street", TWO + "friend 1;", -9, 40);
+        Check.reads(x, "street", "person 0 0 0 0;friend 0 1;person 0 0 0 0;", -8, 24);
+        Check.reads(x, "street", "person 0 0 0 0;".repeat(8) + " person 0 0 0 0;", -7, 121);
         Check.due("still none", 0, () -> x.told(0));
     }
 
@@ -182,54 +174,54 @@ public final class TextTest {
 
     private static void lawFaults() {
         DayLaces x = new DayLaces();
-        fault(x, "law", "", -9, 0);
-        fault(x, "law", "   ", -9, 3);
-        fault(x, "law", "1000", -8, 0);
-        fault(x, "law", "1+ 1000", -8, 3);
-        fault(x, "law", "finger", -9, 0);
-        fault(x, "law", "1 2", -9, 2);
-        fault(x, "law", "1+", -9, 2);
-        fault(x, "law", "-1", -9, 0);
-        fault(x, "law", "(1", -9, 2);
-        fault(x, "law", "1)", -9, 1);
-        fault(x, "law", "least 1", -9, 6);
-        fault(x, "law", "least[1]", -9, 7);
-        fault(x, "law", "least[1;2]", -9, 7);
-        fault(x, "law", "least[1,2)", -9, 9);
-        fault(x, "law", "most[1,2,3]", -9, 8);
-        fault(x, "law", "1;", -9, 1);
-        fault(x, "law", "(((((((1)))))))", -7, 6);
-        fault(x, "law", "((((((least[1,2]))))))", -7, 6);
-        fault(x, "law", "((((((most x))))))", -7, 6);
-        fault(x, "law", "least[1,most[2,least[3,most[4,least[5,(6+ (7))]]]]]", -7, 42);
-        fault(x, "law", "least[((((((1))))),2]", -7, 11);
-        fault(x, "law", "least[(((((1))))),2]+most[(((((1))))),2]", 1, -1);
+        Check.reads(x, "law", "", -9, 0);
+        Check.reads(x, "law", "   ", -9, 3);
+        Check.reads(x, "law", "1000", -8, 0);
+        Check.reads(x, "law", "1+ 1000", -8, 3);
+        Check.reads(x, "law", "finger", -9, 0);
+        Check.reads(x, "law", "1 2", -9, 2);
+        Check.reads(x, "law", "1+", -9, 2);
+        Check.reads(x, "law", "-1", -9, 0);
+        Check.reads(x, "law", "(1", -9, 2);
+        Check.reads(x, "law", "1)", -9, 1);
+        Check.reads(x, "law", "least 1", -9, 6);
+        Check.reads(x, "law", "least[1]", -9, 7);
+        Check.reads(x, "law", "least[1;2]", -9, 7);
+        Check.reads(x, "law", "least[1,2)", -9, 9);
+        Check.reads(x, "law", "most[1,2,3]", -9, 8);
+        Check.reads(x, "law", "1;", -9, 1);
+        Check.reads(x, "law", "(((((((1)))))))", -7, 6);
+        Check.reads(x, "law", "((((((least[1,2]))))))", -7, 6);
+        Check.reads(x, "law", "((((((most x))))))", -7, 6);
+        Check.reads(x, "law", "least[1,most[2,least[3,most[4,least[5,(6+ (7))]]]]]", -7, 42);
+        Check.reads(x, "law", "least[((((((1))))),2]", -7, 11);
+        Check.reads(x, "law", "least[(((((1))))),2]+most[(((((1))))),2]", 1, -1);
     }
 
     private static void workFaults() {
         DayLaces x = Check.on(TWO);
-        fault(x, "work", "tie 2 0;", -8, 4);
-        fault(x, "work", "tie 0 2;", -8, 6);
-        fault(x, "work", "double 2 0;", -8, 7);
-        fault(x, "work", "cut 2;", -8, 4);
-        fault(x, "work", "mend 2;", -8, 5);
-        fault(x, "work", "undo 2;", -8, 5);
-        fault(x, "work", "again 61[];", -8, 6);
-        fault(x, "work", "again [];", -9, 6);
-        fault(x, "work", "again 1 day;", -9, 8);
-        fault(x, "work", "again 1 [day];", -9, 12);
-        fault(x, "work", "again 1 [day;", -9, 13);
-        fault(x, "work", "again 1 [day;]", -9, 14);
-        fault(x, "work", "day;];", -9, 4);
-        fault(x, "work", "day 0;", -9, 4);
-        fault(x, "work", "day", -9, 3);
-        fault(x, "work", "days;", -9, 0);
-        fault(x, "work", "tie 0;", -9, 5);
-        fault(x, "work", "cut 0 0;", -9, 6);
-        fault(x, "work", ";", -9, 0);
-        fault(x, "work", "day;day;tie 0 0;double 0 7;", -8, 25);
-        fault(x, "work", "again1[".repeat(6) + " again1[];", -7, 43);
-        fault(x, "work", "again1[".repeat(6) + "agai", -9, 42);
+        Check.reads(x, "work", "tie 2 0;", -8, 4);
+        Check.reads(x, "work", "tie 0 2;", -8, 6);
+        Check.reads(x, "work", "double 2 0;", -8, 7);
+        Check.reads(x, "work", "cut 2;", -8, 4);
+        Check.reads(x, "work", "mend 2;", -8, 5);
+        Check.reads(x, "work", "undo 2;", -8, 5);
+        Check.reads(x, "work", "again 61[];", -8, 6);
+        Check.reads(x, "work", "again [];", -9, 6);
+        Check.reads(x, "work", "again 1 day;", -9, 8);
+        Check.reads(x, "work", "again 1 [day];", -9, 12);
+        Check.reads(x, "work", "again 1 [day;", -9, 13);
+        Check.reads(x, "work", "again 1 [day;]", -9, 14);
+        Check.reads(x, "work", "day;];", -9, 4);
+        Check.reads(x, "work", "day 0;", -9, 4);
+        Check.reads(x, "work", "day", -9, 3);
+        Check.reads(x, "work", "days;", -9, 0);
+        Check.reads(x, "work", "tie 0;", -9, 5);
+        Check.reads(x, "work", "cut 0 0;", -9, 6);
+        Check.reads(x, "work", ";", -9, 0);
+        Check.reads(x, "work", "day;day;tie 0 0;double 0 7;", -8, 25);
+        Check.reads(x, "work", "again1[".repeat(6) + " again1[];", -7, 43);
+        Check.reads(x, "work", "again1[".repeat(6) + "agai", -9, 42);
         Check.due("none is done", 0, () -> x.told(1));
         Check.due("none is kept", 0, () -> x.count(2));
         Check.due("150 bytes of days", 37, () -> Check.work(x, "day;".repeat(37) + "  "));
@@ -262,23 +254,23 @@ public final class TextTest {
 
     private static void bookTexts() {
         DayLaces x = Check.on(TWO);
-        fault(x, "book", " 1 999 ;0 0; ", 2, -1);
+        Check.reads(x, "book", " 1 999 ;0 0; ", 2, -1);
         Check.due("lines", 2, () -> x.told(9));
-        fault(x, "book", "2 0;", -8, 0);
-        fault(x, "book", "0 1000;", -8, 2);
-        fault(x, "book", "0 1;00 1;", -8, 4);
-        fault(x, "book", "0 1;1 2; 1 x;", -8, 9);
-        fault(x, "book", "0 1", -9, 3);
-        fault(x, "book", "0;", -9, 1);
-        fault(x, "book", "0 1 2;", -9, 4);
-        fault(x, "book", "x 1;", -9, 0);
-        fault(x, "book", ";", -9, 0);
+        Check.reads(x, "book", "2 0;", -8, 0);
+        Check.reads(x, "book", "0 1000;", -8, 2);
+        Check.reads(x, "book", "0 1;00 1;", -8, 4);
+        Check.reads(x, "book", "0 1;1 2; 1 x;", -8, 9);
+        Check.reads(x, "book", "0 1", -9, 3);
+        Check.reads(x, "book", "0;", -9, 1);
+        Check.reads(x, "book", "0 1 2;", -9, 4);
+        Check.reads(x, "book", "x 1;", -9, 0);
+        Check.reads(x, "book", ";", -9, 0);
         Check.due("lines stay", 2, () -> x.told(9));
-        fault(x, "book", "0 5;", 1, -1);
+        Check.reads(x, "book", "0 5;", 1, -1);
         Check.due("new lines", 1, () -> x.told(9));
-        fault(x, "book", "", 0, -1);
+        Check.reads(x, "book", "", 0, -1);
         Check.due("no lines", 0, () -> x.told(9));
-        fault(new DayLaces(), "book", "0 0;", -8, 0);
+        Check.reads(new DayLaces(), "book", "0 0;", -8, 0);
     }
 
     private static void wrongLengths() {
