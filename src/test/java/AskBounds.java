@@ -329,6 +329,17 @@ final class AskBounds {
         StepBounds.goTo(late, LAST);
         Check.law(late, "10");
         kneelIs(late, 8, 7200, 0, 1, 2, 3, 4, 5, 6, 7);
+        // each is asked ahead of the other, and by what is now
+        DayLaces x = by(THREE, "10", "");
+        Check.due("kneel ahead of kneels", 3, () -> x.kneel(0));
+        Check.work(x, "day;cut 0;");
+        Check.due("kneel now", 2, () -> x.kneel(0));
+        Check.work(x, "tie 1 1;");
+        Check.due("days now", 1, () -> x.kneel(1));
+        Check.work(x, "cut 2;mend 0;");
+        Check.due("kneels now", 0, () -> x.kneels(0));
+        Check.work(x, "undo 1;");
+        Check.due("kneels now, undone", 1, () -> x.kneels(1));
     }
 
     private static void kneelGives() {
@@ -480,6 +491,9 @@ final class AskBounds {
         lookIs(x, "", 1, 62);
         lookIs(x, "1 1;", 0, 2);
         lookIs(x, "1 0;", 2, 60);
+        // 0 alone is late, and by itself alone comes into TODAY
+        lookIs(by(EIGHT, "10", "cut 1;cut 2;cut 3;cut 4;cut 5;cut 6;cut 7;day;"), "", 0, 63);
+        lookIs(by(EIGHT, "10", "cut 0;cut 1;cut 2;cut 3;cut 4;cut 5;cut 6;day;"), "", 7, 63);
         // nobody but itself ties anybody, then 4 its friend, too: one pair, and two for 3
         DayLaces y = by(EIGHT, "10", "day;tie 0 0;tie 0 4;");
         Check.law(y, "9+friend+self");
@@ -644,12 +658,19 @@ final class AskBounds {
         whoHelps(x, 7, 0, -1, 1);
         Check.law(x, "9+double");
         whoHelps(x, 7, 0, -1, 1);
+        Check.law(x, "10+double");
+        whoHelps(x, 7, 0b11000010, 7, 1);
         Check.due("loose by any law", 0b10111001, x::loose);
         DayLaces y = Check.on("person 3 0 0 0;person 4 0 0 0;person 4 0 0 0;person 2 0 0 0;");
         Check.law(y, "10");
         Check.work(y, "tie 0 0;tie 1 1;tie 2 2;");
         Check.law(y, "fingers");
         Check.due("of alike ones the first", 1, () -> y.best(3));
+        Check.law(y, "fingers+double*(20-fingers*2)");
+        Check.due("singly, not doubly", 1, () -> y.best(3));
+        Check.due("0 is not loose", 8, y::loose);
+        Check.work(y, "tie 3 3;undo 1;");
+        Check.due("1 alone", 2, () -> y.loose() & 6);
     }
 
     private static void whoHelps(DayLaces x, int p, int bits, int itself, int best) {

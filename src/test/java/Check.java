@@ -97,12 +97,19 @@ final class Check {
         return x.book(text.length());
     }
 
-    /** Reads a text of a kind: its answer, the place of its FAULT (-1 without), and that the TAPE is empty then. */
+    /**
+     * Reads a text of a kind: its answer, the place of its FAULT (-1 without), and that the TAPE is empty
+     * then; all else stays, if it is not read.
+     */
     static void reads(DayLaces x, String kind, String text, int answer, int place) {
+        String before = State.of(x);
         due(kind + " '" + text + "'", answer, () -> kind.equals("street") ? street(x, text)
             : kind.equals("law") ? law(x, text) : kind.equals("work") ? work(x, text) : book(x, text));
         due("fault of " + kind + " '" + text + "'", place, x::fault);
         due("tape behind " + kind + " '" + text + "'", 0, () -> x.count(1));
+        if (answer < 0) {
+            due("all stays behind " + kind + " '" + text + "'", State.of(x), before);
+        }
     }
 
     /** A new object with a street that must be right. */

@@ -18,6 +18,10 @@ final class State {
             }
         }
         all.append("| ").append(x.fits(0)).append(' ').append(x.fits(1)).append(' ').append(x.look(0));
+        // the LAW, also where there are no PERSONS
+        for (int i = 0; i < 8; i++) {
+            all.append(' ').append(x.would(i, 9 - i, 3 * i, i & 1, i >> 1 & 1, i >> 2 & 1, 40 - i, 100 * i));
+        }
         for (int what = 0; what <= 2; what++) {
             all.append(' ').append(x.count(what));
         }

@@ -418,7 +418,8 @@ final class StepBounds {
         DayLaces x = Check.on(EIGHT);
         Check.due("none", -1, x::undo);
         String[] before = new String[17];
-        String[] works = {"tie 0 0;", "", "day;cut 1;", "mend 7;", "double 2 2;day;", "again 9[day;];"};
+        Check.law(x, "self*10");
+        String[] works = {"tie 0 0;", "", "day;cut 1;", "tie 0 0;tie 0 3;mend 7;", "double 2 2;tie 2 4;day;", "again 9[day;];"};
         for (int i = 0; i < 16; i++) {
             before[i] = State.of(x).replaceFirst("(( *[0-9]+){10}) [0-9]+", "$1 0");
             Check.work(x, works[i % 6]);
@@ -436,7 +437,7 @@ final class StepBounds {
         Check.due("still none", -1, x::undo);
         Check.reads(x, "work", "day", -9, 3);
         Check.due("a FAULT is no WORK", -1, x::undo);
-        Check.due("as at first", State.of(x), State.of(Check.on(EIGHT)));
+        Check.due("as at first", State.of(x), before[0]);
     }
 
     private static void imaging() {
@@ -445,8 +446,10 @@ final class StepBounds {
         Said.promise(44, "All that is as in the latest IMAGE, which is gone: how many are left; -1: there is none.");
         DayLaces x = Check.on(EIGHT);
         Check.due("none", -1, x::restore);
+        Check.law(x, "self*10");
+        String first = State.of(x);
         String[] as = new String[3];
-        String[] works = {"double 0 0;tie 1 1;day;", "cut 1;day;", "undo 0;tie 2 2;tie 2 3;"};
+        String[] works = {"double 0 0;tie 1 1;tie 0 7;day;", "cut 1;day;", "tie 0 6;undo 0;tie 2 2;tie 2 3;"};
         for (int i = 0; i < 3; i++) {
             Check.work(x, works[i]);
             int n = i + 1;
@@ -473,7 +476,47 @@ final class StepBounds {
         Check.due("none any more", -1, x::restore);
         Check.due("nothing is done by it", State.of(x), last);
         Check.due("its WORK can be undone", 0, x::undo);
-        Check.due("undone all", State.of(x), State.of(Check.on(EIGHT)));
+        Check.due("undone all", State.of(x), first);
         Check.due("room again", 1, x::image);
+        fullImages();
+    }
+
+    /** Three IMAGES with sixteen WORKS each, all unlike, undone to the first. */
+    private static void fullImages() {
+        DayLaces x = Check.on(EIGHT);
+        Check.law(x, "self*10");
+        String[][] before = new String[3][17];
+        for (int image = 0; image < 3; image++) {
+            for (int i = 0; i < 16; i++) {
+                before[image][i] = unlike(x);
+                Check.work(x, "day;double " + (i + image) % 8 + " " + (i + image) % 8 + ";cut " + i % 8 + ";tie " + (i + image) % 8
+                    + " " + (i + 5) % 8 + ";" + (image > i % 3 ? "mend 0;day;" : ""));
+            }
+            before[image][16] = unlike(x);
+            x.image();
+            for (int i = 15; i >= image; i--) {
+                x.undo();
+            }
+            Check.due("left of " + image, image, () -> x.count(2));
+            for (int i = image; i > 0; i--) {
+                x.undo();
+            }
+        }
+        for (int image = 2; image >= 0; image--) {
+            int left = image;
+            Check.due("restore", left, x::restore);
+            for (int i = 16; i > 0; i--) {
+                Check.due("of IMAGE " + image + " behind WORK " + i, unlike(x), before[image][i]);
+                int n = i - 1;
+                Check.due("undo", n, x::undo);
+            }
+            Check.due("of IMAGE " + image + " at first", unlike(x), before[image][0]);
+        }
+    }
+
+    /** What State tells, but what was REFUSED and how many IMAGES and WORKS there are. */
+    private static String unlike(DayLaces x) {
+        String all = State.of(x).replaceFirst("(( *[0-9]+){10}) [0-9]+", "$1");
+        return all.replaceFirst("( [0-9]+){3}$", "");
     }
 }

@@ -1,6 +1,7 @@
 /** The boundary cases that the document tells of the TAPE and the four texts (promises 1 to 7, and the terms). */
 final class TextBounds {
     private static final String ONE = "person 9 0 0 0;";
+    private static final String THREE = ONE.repeat(3);
     private static final String FULL = "person 0 0 0 0;".repeat(8);
     /** An open thing of each kind that a LAW knows, with what closes it. */
     private static final String[][] OPEN = {{"(", ")"}, {"least[", ",1]"}, {"most[1,", "]"}};
@@ -187,9 +188,12 @@ final class TextBounds {
         Check.reads(x, "street", "string 99;", 0, -1);
         Check.due("99", 99, () -> x.told(8));
         Check.reads(x, "street", "string 100;", -8, 7);
+        Check.reads(x, "street", "string 0;string 100;", -8, 16);
         Check.due("99 stays", 99, () -> x.told(8));
         Check.reads(x, "street", "string 3;string 99;string 4;", 0, -1);
         Check.due("the last", 4, () -> x.told(8));
+        Check.reads(x, "street", "string 0;person 0 0 0 0;person 0 0 0 0;friend 0 1;string 0;string 1;", 2, -1);
+        Check.due("behind 0, too", 1, () -> x.told(8));
         Check.reads(x, "street", ONE, 1, -1);
         Check.due("20 without, again", 20, () -> x.told(8));
     }
@@ -350,6 +354,38 @@ final class TextBounds {
         Check.reads(x, "work", "againday;", -9, 0);
         Check.reads(x, "work", "z;", -9, 0);
         Check.reads(x, "work", "a;", -9, 0);
+        Check.reads(x, "street", "stringz 7;", -9, 0);
+        Check.reads(x, "street", "zstring 7;", -9, 0);
+        Check.reads(x, "street", "stringa 7;", -9, 0);
+        letters(x, "street", "person", " 0 0 0 0;");
+        letters(x, "street", "string", " 0;");
+        letters(x, "street", "friend", " 0 0;");
+        for (String word : new String[] {"fingers", "haste", "behind", "double", "friend", "self", "slips", "day"}) {
+            letters(x, "law", word, "");
+        }
+        letters(x, "law", "least", "[1,2]");
+        letters(x, "law", "most", "[1,2]");
+        letters(x, "work", "day", ";");
+        letters(x, "work", "again", " 1[];");
+        DayLaces one = Check.on(ONE);
+        for (String word : new String[] {"tie", "double"}) {
+            letters(one, "work", word, " 0 0;");
+        }
+        for (String word : new String[] {"cut", "mend", "undo"}) {
+            letters(one, "work", word, " 0;");
+        }
+    }
+
+    /** A letter more, less or another one, anywhere in a word: another word, which can't stand there. */
+    private static void letters(DayLaces x, String kind, String word, String behind) {
+        for (int i = 0; i < word.length(); i++) {
+            String begin = word.substring(0, i);
+            String rest = word.substring(i + 1);
+            Check.reads(x, kind, begin + "x" + rest + behind, -9, 0);
+            Check.reads(x, kind, begin + "x" + word.charAt(i) + rest + behind, -9, 0);
+            Check.reads(x, kind, begin + rest + behind, -9, 0);
+        }
+        Check.reads(x, kind, word + "x" + behind, -9, 0);
     }
 
     private static void blanks() {
@@ -497,22 +533,20 @@ final class TextBounds {
     private static void streetAnew() {
         Said.promise(3, "The first n bytes of the TAPE (empty then) are the STREET (TODAY 0; no LAW, BOOK, IMAGES, "
             + "nothing to undo): how many PERSONS; or the FAULT less 10 (all stays).");
-        DayLaces x = Check.on(ONE + ONE + "friend 0 1;string 5;");
+        DayLaces x = Check.on(THREE + "friend 0 1;string 5;");
+        // 0 and 1 are tied, 2 is cut and slipped; a STEP of the latest WORK is REFUSED
+        Check.law(x, "self*10");
+        Check.work(x, "day;tie 0 0;double 1 1;tie 0 2;");
+        Check.work(x, "cut 2;mend 0;");
         Check.law(x, "99");
         Check.book(x, "0 5;1 6;");
-        Check.work(x, "day;tie 0 0;double 0 1;mend 0;");
-        Check.work(x, "cut 0;");
         x.image();
         x.image();
-        String before = State.of(x);
-        for (String bad : new String[] {"person", "string 100;", FULL + ONE}) {
-            Check.due("refused street", true, Check.street(x, bad) < 0);
-            Check.due("its place", true, x.fault() >= 0);
-            Check.law(x, "99");
-            Check.due("all stays", State.of(x), before);
-        }
-        Check.due("a new street", 1, () -> Check.street(x, ONE));
-        Check.due("as of a new object", State.of(x), State.of(Check.on(ONE)));
+        Check.reads(x, "street", "person", -9, 6);
+        Check.reads(x, "street", THREE + "string 100;", -8, 52);
+        Check.reads(x, "street", FULL + ONE, -7, 120);
+        Check.due("a new street", 3, () -> Check.street(x, THREE));
+        Check.due("as of a new object", State.of(x), State.of(Check.on(THREE)));
         Check.due("nothing to undo", -1, x::undo);
         Check.due("nothing to restore", -1, x::restore);
     }
