@@ -35,6 +35,7 @@ final class TextBounds {
         leastOfOne();
         streetAnew();
         lengths();
+        firstBytes();
         fullOfWorks();
         latestFault();
     }
@@ -583,6 +584,44 @@ final class TextBounds {
         Check.feed(x, blanks(fed));
         Check.due(kind + " of no bytes", kind.equals("law") ? -9 : 0, () -> read(x, kind, 0));
         Check.due("the rest is gone, too", 0, () -> x.count(1));
+    }
+
+    /** What stands on the TAPE behind the first n bytes is not read, though it would go on with a number, a word, a text. */
+    private static void firstBytes() {
+        Said.promise(3, "The first n bytes of the TAPE (empty then) are the STREET");
+        first("law", "1234", 1, 1, -1);
+        first("law", "99999", 3, 1, -1);
+        first("law", "99999", 4, -8, 0);
+        first("law", "dayday", 3, 1, -1);
+        first("law", "day", 2, -9, 0);
+        first("law", "1+1+1", 3, 1, -1);
+        first("law", "1+1+1", 4, -9, 4);
+        first("law", "(1)", 2, -9, 2);
+        first("law", "1  +1", 3, 1, -1);
+        first("street", "string 99;string 100;", 10, 0, -1);
+        first("street", "string 99;string 100;", 20, -8, 17);
+        first("street", "string 999;", 9, -9, 9);
+        first("street", "string 5;strings", 15, -9, 15);
+        first("street", "string 5;", 3, -9, 0);
+        first("work", "day;day;", 4, 1, -1);
+        first("work", "day;day;", 7, -9, 7);
+        first("work", "again 12[day;];", 7, -9, 7);
+        first("work", "day;tie", 6, -9, 4);
+        first("book", "0 0;0 0;", 4, 1, -1);
+        first("book", "0 9999;", 5, -9, 5);
+        first("book", "0 5;1", 4, 1, -1);
+        DayLaces x = new DayLaces();
+        Check.feed(x, "12345678901234567890");
+        Check.due("two digits of twenty", 1, () -> x.law(2));
+        Check.due("are 12", 12, () -> x.would(0, 0, 0, 0, 0, 0, 0, 0));
+    }
+
+    private static void first(String kind, String tape, int n, int answer, int place) {
+        DayLaces x = Check.on(ONE);
+        Check.feed(x, tape);
+        Check.due(kind + " of " + n + " bytes of " + tape, answer, () -> read(x, kind, n));
+        Check.due("its fault", place, x::fault);
+        Check.due("the tape is empty", 0, () -> x.count(1));
     }
 
     private static int read(DayLaces x, String kind, int n) {
