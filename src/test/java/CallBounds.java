@@ -47,6 +47,7 @@ final class CallBounds {
         arguments();
         aheadOfOthers();
         nothingStaysChanged();
+        lesserStreet();
         statusCounts();
         counts();
         fiveHundredCalls();
@@ -325,6 +326,35 @@ final class CallBounds {
                 Check.due("undone alike", State.of(asked), State.of(twin));
                 Check.due("restore", twin.restore(), asked::restore);
                 Check.due("restored alike", State.of(asked), State.of(twin));
+            }
+        }
+    }
+
+    /** Nothing of a greater STREET, or of what was asked in it, is seen in a lesser one that is told behind it. */
+    private static void lesserStreet() {
+        Said.promise(3, "(TODAY 0; no LAW, BOOK, IMAGES, nothing to undo)");
+        for (int persons = 0; persons <= 8; persons++) {
+            seenAnew(persons, MIXED.substring(0, nth(MIXED, persons)));
+            // nobody here ties a lace that holds
+            seenAnew(persons, "person 0 9 1 1;".repeat(persons));
+        }
+    }
+
+    private static void seenAnew(int persons, String lesser) {
+        DayLaces x = busy(8);
+        Check.due("the tape is emptied", -9, () -> x.law(0));
+        Check.reads(x, "law", "99", 1, -1);
+        Check.reads(x, "work", "cut 3;again 9[tie 6 6;day;];undo 0;tie 0 0;", 20, -1);
+        for (Asked call : ASKED) {
+            Calls.answer(x, call.name, all(call, 8, true));
+        }
+        Check.reads(x, "street", lesser, persons, -1);
+        DayLaces fresh = Check.on(lesser);
+        for (Asked call : ASKED) {
+            for (boolean atMost : new boolean[] {false, true}) {
+                Object[] args = all(call, persons, atMost);
+                Check.due(call.name + Arrays.toString(args) + " of " + persons, Calls.answer(x, call.name, args),
+                    Calls.answer(fresh, call.name, args));
             }
         }
     }
