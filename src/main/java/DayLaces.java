@@ -642,7 +642,7 @@ public final class DayLaces {
         static final int CANT_STAND = 1;
         static final int NONE_SUCH = 2;
         static final int TOO_MANY = 3;
-        /** Above every number that a text may hold; longer ones stay here and do not wrap. */
+        /** Above every number that a text may hold; digits behind one so great are passed, lest it wraps. */
         private static final int GREAT = 100000;
 
         private final byte[] bytes = new byte[TAPE_BYTES];
@@ -688,7 +688,7 @@ public final class DayLaces {
             } else if (bytes[next] >= '0' && bytes[next] <= '9') {
                 kind = NUMBER;
                 for (value = 0; next < end && bytes[next] >= '0' && bytes[next] <= '9'; next++) {
-                    value = Math.min(GREAT, 10 * value + bytes[next] - '0');
+                    value = value >= GREAT ? GREAT : 10 * value + bytes[next] - '0';
                 }
             } else if (bytes[next] >= 'a' && bytes[next] <= 'z') {
                 kind = WORD;

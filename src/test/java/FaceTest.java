@@ -10,10 +10,15 @@ import java.util.Arrays;
 import java.util.List;
 import java.util.Set;
 import java.util.TreeSet;
+import java.util.regex.Matcher;
+import java.util.regex.Pattern;
 
 /** The public face as the document prints it, and the rules of LANGUAGE.md that can be seen from outside. */
 public final class FaceTest {
     private static final Path SOURCE = Path.of("src/main/java/DayLaces.java");
+    private static final Path DOCUMENT = Path.of("../shared/DOC.md");
+    private static final Pattern PRINTED =
+        Pattern.compile(" +public (int|long|boolean) (\\w+)\\((.*)\\)(?: throws (.*))?;");
     private static final String[] FACE = {
         "int feed(int, int, int, int, int)",
         "int street(int) IllegalArgumentException",
@@ -60,6 +65,9 @@ public final class FaceTest {
         "int restore()",
         "int status(int)",
         "int count(int)"};
+    /** A field's own row, what is thrown, or a line of the constructor, which alone assigns by a plain name. */
+    private static final String MADE = " +(private )?final \\w+\\[\\] \\w+ = new .*| +throw new .*"
+        + "|        ([A-Z]\\w+ )?[a-z]\\w* = new .*";
     private static final String[] OUTSIDE = {"->", "::", "catch (", "finally", "try ", "synchronized", "assert", "Exact(",
         "System.out", "Integer.MAX", "Integer.MIN", "static {", "String.", "Object", "hashCode", "toString",
         "getMessage", "while (true)", "for (;;)"};
@@ -71,6 +79,7 @@ public final class FaceTest {
         Check.due("NONE", -1, () -> DayLaces.NONE);
         Check.due("the class is final", true, Modifier.isFinal(DayLaces.class.getModifiers()));
         face();
+        document();
         members();
         inside();
         source();
@@ -96,6 +105,19 @@ public final class FaceTest {
             made.add(Modifier.toString(c.getModifiers()) + "(" + names(c.getParameterTypes()) + ")");
         }
         Check.due("constructors", made.toString(), "[public()]");
+    }
+
+    /** The rows above are those that the document prints. */
+    private static void document() throws IOException {
+        Set<String> printed = new TreeSet<>();
+        for (String line : Files.readAllLines(DOCUMENT)) {
+            Matcher m = PRINTED.matcher(line);
+            if (m.matches()) {
+                String thrown = m.group(4) == null ? "" : " " + m.group(4);
+                printed.add(m.group(1) + " " + m.group(2) + "(" + m.group(3).replaceAll("(int) \\w+", "$1") + ")" + thrown);
+            }
+        }
+        Check.due("the document's face", printed.toString(), new TreeSet<>(Arrays.asList(FACE)).toString());
     }
 
     private static void members() {
@@ -139,6 +161,8 @@ public final class FaceTest {
             for (String out : OUTSIDE) {
                 Check.due("line " + (i + 1) + " is without " + out, false, code.contains(out));
             }
+            Check.due("line " + (i + 1) + " makes nothing but a row, a part or what it throws", true,
+                !code.contains("new ") || code.matches(MADE));
             Check.due("line " + (i + 1) + " imports", true,
                 !line.startsWith("import") || line.equals("import java.util.NoSuchElementException;"));
         }
